@@ -77,7 +77,6 @@ public final class LanternState {
     private static final int KEY_NUMBER = 26;
 
     private final Tape tape = new Tape();
-    private final Reader reader = new Reader();
     private final Scene scene = new Scene();
     private final Scene draftScene = new Scene();
     private final State state = new State();
@@ -122,11 +121,11 @@ public final class LanternState {
     }
 
     public int session() {
-        reader.open(tape, SESSION_BYTES);
-        boolean fits = draftScene.read(reader);
-        closeReader();
+        tape.open(SESSION_BYTES);
+        boolean fits = draftScene.read(tape);
+        closeText();
         if (!fits) {
-            return -1 - reader.faultPlace;
+            return -1 - tape.faultPlace;
         }
         scene.copyFrom(draftScene);
         state.begin(scene);
@@ -421,18 +420,24 @@ public final class LanternState {
         if (lives != 0 && lives != 1) {
             return NO_SUCH_LIVES;
         }
-        reader.open(tape, BOOK_BYTES);
-        boolean fits = pages.read(reader, scene);
-        closeReader();
+        tape.open(BOOK_BYTES);
+        boolean fits = pages.read(tape, scene);
+        closeText();
         if (!fits) {
-            return -2 - reader.faultPlace;
+            return -2 - tape.faultPlace;
         }
         trial.copyFrom(state);
         if (lives == 1) {
             history.keep(trial);
-            return tellBook(state);
         }
-        return tellBook(trial);
+        State lived = lives == 1 ? state : trial;
+        int wrong = pages.liveIn(scene, lived);
+        toldAny = true;
+        toldRow[0] = pages.why;
+        toldRow[1] = wrong == NONE ? pages.lines : wrong;
+        toldRow[2] = lived.hour;
+        toldRow[3] = lived.so;
+        return wrong;
     }
 
     public int told(int what) {
@@ -443,11 +448,11 @@ public final class LanternState {
     }
 
     public int sentence() {
-        reader.open(tape, SENTENCE_BYTES);
-        boolean fits = draftRule.read(reader, scene);
-        closeReader();
+        tape.open(SENTENCE_BYTES);
+        boolean fits = draftRule.read(tape, scene);
+        closeText();
         if (!fits) {
-            return -1 - reader.faultPlace;
+            return -1 - tape.faultPlace;
         }
         rule.copyFrom(draftRule);
         return rule.ones;
@@ -539,19 +544,9 @@ public final class LanternState {
         return answer;
     }
 
-    private void closeReader() {
-        lastFault = reader.fault;
+    private void closeText() {
+        lastFault = tape.fault;
         tape.size = 0;
-    }
-
-    private int tellBook(State lived) {
-        int wrong = pages.liveIn(scene, lived);
-        toldAny = true;
-        toldRow[0] = pages.why;
-        toldRow[1] = wrong == NONE ? pages.lines : wrong;
-        toldRow[2] = lived.hour;
-        toldRow[3] = lived.so;
-        return wrong;
     }
 
     /** Pictures are 16 bits; cell X, Y is bit 4 by Y and X, as the document counts scratched cells. */
@@ -599,42 +594,8 @@ public final class LanternState {
         }
     }
 
+    /** The bytes that were fed; reads them as TOKENS one by one, and keeps the first FAULT. */
     private static final class Tape {
-        final byte[] bytes = new byte[TAPE_BYTES];
-        int size;
-
-        void put(int number) {
-            for (int shift = 24; shift >= 0; shift -= 8) {
-                if (size < TAPE_BYTES) {
-                    bytes[size] = (byte) (number >>> shift);
-                    size++;
-                }
-            }
-        }
-
-        int at(int i) {
-            return i >= 0 && i < size ? bytes[i] & 255 : NONE;
-        }
-
-        /** The picture that four bytes tell; NONE, if they, or how many bytes there are, are not as told. */
-        int pictureFrom(int from) {
-            if (size != SEEN_BYTES) {
-                return NONE;
-            }
-            int picture = 0;
-            for (int y = 0; y < SIDE; y++) {
-                int r = at(from + y);
-                if (r < 0 || r > 15) {
-                    return NONE;
-                }
-                picture |= Picture.ofRow(r, y);
-            }
-            return picture;
-        }
-    }
-
-    /** Reads TOKENS off the tape one by one, and keeps the first FAULT. */
-    private static final class Reader {
         static final int END = 0;
         static final int BAD = 1;
         static final int NAME = 2;
@@ -646,7 +607,8 @@ public final class LanternState {
         private static final int MOST_DIGITS = 3;
 
         private final long[] keyCodes = new long[KEY_COUNT];
-        private Tape tape;
+        private final byte[] bytes = new byte[TAPE_BYTES];
+        int size;
         private int most;
         private int from;
         int kind;
@@ -659,7 +621,7 @@ public final class LanternState {
         int fault;
         int faultPlace;
 
-        Reader() {
+        Tape() {
             int k = 0;
             long word = 0;
             for (int i = 0; i < KEYWORDS.length(); i++) {
@@ -674,8 +636,37 @@ public final class LanternState {
             }
         }
 
-        void open(Tape text, int mostBytes) {
-            tape = text;
+        void put(int number) {
+            for (int shift = 24; shift >= 0; shift -= 8) {
+                if (size < TAPE_BYTES) {
+                    bytes[size] = (byte) (number >>> shift);
+                    size++;
+                }
+            }
+        }
+
+        /** The picture that four bytes tell; NONE, if they, or how many bytes there are, are not as told. */
+        int pictureFrom(int first) {
+            if (size != SEEN_BYTES) {
+                return NONE;
+            }
+            int picture = 0;
+            for (int y = 0; y < SIDE; y++) {
+                int r = at(first + y);
+                if (r < 0 || r > 15) {
+                    return NONE;
+                }
+                picture |= Picture.ofRow(r, y);
+            }
+            return picture;
+        }
+
+        private int at(int i) {
+            return i >= 0 && i < size && i < TAPE_BYTES ? bytes[i] & 255 : NONE;
+        }
+
+        /** Begins to read a text of so many bytes at the most. */
+        void open(int mostBytes) {
             most = mostBytes;
             from = 0;
             fault = 0;
@@ -692,61 +683,58 @@ public final class LanternState {
         }
 
         void next() {
-            int p = from;
-            while (p < tape.size && isBlank(tape.at(p))) {
-                p++;
+            int c = at(from);
+            for (; from < size && (c == 32 || c == 10); c = at(from)) {
+                from++;
             }
-            from = p;
-            place = p;
+            place = from;
             value = 0;
             code = 0;
             key = NONE;
-            if (tape.size > most && p >= most) {
+            if (size > most && from >= most) {
                 kind = BAD;
                 place = most;
-            } else if (p >= tape.size) {
+            } else if (from >= size) {
                 kind = END;
-            } else if (isLetter(tape.at(p)) || isDigit(tape.at(p))) {
+            } else if (c >= 'a' && c <= 'z' || c >= '0' && c <= '9') {
                 readRun();
             } else {
-                value = tape.at(p);
-                kind = isSignByte(value) ? SIGN : BAD;
-                from = p + 1;
+                kind = c >= ';' && c <= '>' || c == '(' || c == ')' ? SIGN : BAD;
+                value = c;
+                from++;
             }
         }
 
+        /** Letters and digits as far as they go. */
         private void readRun() {
             int letters = 0;
             int digits = 0;
-            int p = from;
-            for (; p < tape.size; p++) {
-                int c = tape.at(p);
-                if (isLetter(c)) {
+            boolean goesOn = true;
+            while (goesOn && from < size) {
+                int c = at(from);
+                if (c >= 'a' && c <= 'z') {
                     letters++;
                     code = code * 32 + (c - 'a' + 1);
-                } else if (isDigit(c)) {
+                    from++;
+                } else if (c >= '0' && c <= '9') {
                     digits++;
                     value = value * 10 + (c - '0');
+                    from++;
                 } else {
-                    break;
+                    goesOn = false;
                 }
             }
-            from = p;
             if (digits == 0 && letters <= MOST_LETTERS) {
-                key = keyOf(code);
-                kind = key == NONE ? NAME : KEY;
+                kind = NAME;
+                for (int k = 0; k < KEY_COUNT; k++) {
+                    if (keyCodes[k] == code) {
+                        kind = KEY;
+                        key = k;
+                    }
+                }
             } else {
                 kind = letters == 0 && digits <= MOST_DIGITS ? NUMBER : BAD;
             }
-        }
-
-        private int keyOf(long word) {
-            for (int k = 0; k < KEY_COUNT; k++) {
-                if (keyCodes[k] == word) {
-                    return k;
-                }
-            }
-            return NONE;
         }
 
         boolean isSign(int sign) {
@@ -779,22 +767,6 @@ public final class LanternState {
         boolean takeLineEnd() {
             next();
             return isSign(';') || fail(FAULT_TOKEN);
-        }
-
-        private static boolean isBlank(int c) {
-            return c == 32 || c == 10;
-        }
-
-        private static boolean isLetter(int c) {
-            return c >= 'a' && c <= 'z';
-        }
-
-        private static boolean isDigit(int c) {
-            return c >= '0' && c <= '9';
-        }
-
-        private static boolean isSignByte(int c) {
-            return c == ';' || c == '<' || c == '=' || c == '>' || c == '(' || c == ')';
         }
     }
 
@@ -851,10 +823,10 @@ public final class LanternState {
             System.arraycopy(other.near, 0, near, 0, MOST_HEARERS);
         }
 
-        boolean read(Reader in) {
+        boolean read(Tape in) {
             clear();
             in.next();
-            while (lines < TAPE_BYTES && in.kind != Reader.END) {
+            while (lines < TAPE_BYTES && in.kind != Tape.END) {
                 if (!readLine(in) || !in.takeLineEnd()) {
                     return false;
                 }
@@ -864,7 +836,7 @@ public final class LanternState {
             return true;
         }
 
-        private boolean readLine(Reader in) {
+        private boolean readLine(Tape in) {
             switch (in.key) {
                 case KEY_SLIDE: return readSlide(in);
                 case KEY_HEARER: return readHearer(in);
@@ -879,12 +851,15 @@ public final class LanternState {
             }
         }
 
-        private boolean readSlide(Reader in) {
+        private boolean readSlide(Tape in) {
             if (slides >= MOST_SLIDES) {
                 return in.fail(FAULT_TOO_MANY);
             }
-            if (!takeNewName(in)) {
+            if (!in.takeName()) {
                 return false;
+            }
+            if (isTold(in.code)) {
+                return in.fail(FAULT_NAME);
             }
             slideNames[slides] = in.code;
             int picture = 0;
@@ -904,12 +879,15 @@ public final class LanternState {
             return true;
         }
 
-        private boolean readHearer(Reader in) {
+        private boolean readHearer(Tape in) {
             if (hearers >= MOST_HEARERS) {
                 return in.fail(FAULT_TOO_MANY);
             }
-            if (!takeNewName(in)) {
+            if (!in.takeName()) {
                 return false;
+            }
+            if (isTold(in.code)) {
+                return in.fail(FAULT_NAME);
             }
             hearerNames[hearers] = in.code;
             if (!in.takeSeat()) {
@@ -929,7 +907,7 @@ public final class LanternState {
             return true;
         }
 
-        private boolean readCell(Reader in, int[] thoughts) {
+        private boolean readCell(Tape in, int[] thoughts) {
             int h = takeHearer(in);
             if (h == NONE || !in.takeNumber(0, 3)) {
                 return false;
@@ -946,7 +924,7 @@ public final class LanternState {
             return true;
         }
 
-        private boolean readNear(Reader in) {
+        private boolean readNear(Tape in) {
             if (nears >= MOST_NEAR) {
                 return in.fail(FAULT_TOO_MANY);
             }
@@ -967,7 +945,7 @@ public final class LanternState {
             return true;
         }
 
-        private boolean readAfter(Reader in) {
+        private boolean readAfter(Tape in) {
             int s = takeSlide(in);
             if (s == NONE) {
                 return false;
@@ -986,7 +964,7 @@ public final class LanternState {
             return true;
         }
 
-        private boolean readSetting(Reader in, int key, int least, int highest) {
+        private boolean readSetting(Tape in, int key, int least, int highest) {
             if ((settingsTold >> key & 1) != 0) {
                 return in.fail(FAULT_NAME);
             }
@@ -1004,33 +982,25 @@ public final class LanternState {
             return true;
         }
 
-        private boolean takeNewName(Reader in) {
-            if (!in.takeName()) {
-                return false;
-            }
-            boolean told = findSlide(in.code) != NONE || findHearer(in.code) != NONE;
-            return !told || in.fail(FAULT_NAME);
+        private boolean isTold(long code) {
+            return findSlide(code) != NONE || findHearer(code) != NONE;
         }
 
         /** The SLIDE that the next TOKEN names; NONE behind a FAULT. */
-        int takeSlide(Reader in) {
-            if (!in.takeName()) {
-                return NONE;
-            }
-            int s = findSlide(in.code);
+        int takeSlide(Tape in) {
+            in.next();
+            int s = in.kind == Tape.NAME ? findSlide(in.code) : NONE;
             if (s == NONE) {
-                in.fail(FAULT_NAME);
+                in.fail(in.kind == Tape.NAME ? FAULT_NAME : FAULT_TOKEN);
             }
             return s;
         }
 
-        private int takeHearer(Reader in) {
-            if (!in.takeName()) {
-                return NONE;
-            }
-            int h = findHearer(in.code);
+        private int takeHearer(Tape in) {
+            in.next();
+            int h = in.kind == Tape.NAME ? findHearer(in.code) : NONE;
             if (h == NONE) {
-                in.fail(FAULT_NAME);
+                in.fail(in.kind == Tape.NAME ? FAULT_NAME : FAULT_TOKEN);
             }
             return h;
         }
@@ -1069,6 +1039,10 @@ public final class LanternState {
                 }
             }
             return who;
+        }
+
+        boolean isEnough(int who) {
+            return Integer.bitCount(who) >= pass;
         }
 
         int spreadFrom(int set) {
@@ -1184,7 +1158,7 @@ public final class LanternState {
             }
             int many = Integer.bitCount(who);
             allSighs += many;
-            if (many >= scene.pass) {
+            if (scene.isEnough(who)) {
                 so |= set;
             }
             return many;
@@ -1302,20 +1276,18 @@ public final class LanternState {
         int bestSize;
         private int bestPassed;
         private final int[] path = new int[MOST_SLIDES];
-        private Scene scene;
         private int passing;
         private int picture;
         private int behind;
 
-        int findOrder(Scene ofScene, State state) {
-            scene = ofScene;
+        int findOrder(Scene scene, State state) {
             passing = 0;
             int left = 0;
             for (int s = 0; s < scene.slides; s++) {
                 if (((state.so | state.cracked) >> s & 1) == 0) {
                     left |= 1 << s;
                 }
-                if (isEnough(scene.sighers(state.pictures[s], state.behind))) {
+                if (scene.isEnough(scene.sighers(state.pictures[s], state.behind))) {
                     passing |= 1 << s;
                 }
             }
@@ -1323,13 +1295,13 @@ public final class LanternState {
             if (state.black) {
                 keepIfBetter(0, 0);
             } else {
-                goOn(0, left, state.so, state.heat, 0);
+                goOn(scene, 0, left, state.so, state.heat, 0);
             }
             return bestPassed;
         }
 
         /** Tries the SLIDES from the least on, so that of like ORDERS the first is kept. */
-        private void goOn(int depth, int left, int so, int heat, int passed) {
+        private void goOn(Scene scene, int depth, int left, int so, int heat, int passed) {
             boolean ends = true;
             for (int s = 0; depth < MOST_SLIDES && s < scene.slides; s++) {
                 int first = scene.after[s];
@@ -1344,7 +1316,7 @@ public final class LanternState {
                     keepIfBetter(depth + 1, passed);
                 } else {
                     int passes = passing >> s & 1;
-                    goOn(depth + 1, left & ~(1 << s), so | passes << s, hotter, passed + passes);
+                    goOn(scene, depth + 1, left & ~(1 << s), so | passes << s, hotter, passed + passes);
                 }
             }
             if (ends) {
@@ -1361,8 +1333,7 @@ public final class LanternState {
         }
 
         /** Who must sit the other way, as bits; NONE, if nothing helps. */
-        int findMoved(Scene ofScene, State state, int shown) {
-            scene = ofScene;
+        int findMoved(Scene scene, State state, int shown) {
             int all = (1 << scene.hearers) - 1;
             int inFront = scene.ownSighers(shown, 0);
             int atBack = scene.ownSighers(shown, all);
@@ -1372,7 +1343,7 @@ public final class LanternState {
                     continue;
                 }
                 int sitBehind = state.behind ^ set;
-                if (isEnough(scene.spreadFrom(inFront & ~sitBehind | atBack & sitBehind))) {
+                if (scene.isEnough(scene.spreadFrom(inFront & ~sitBehind | atBack & sitBehind))) {
                     found = set;
                 }
             }
@@ -1380,33 +1351,28 @@ public final class LanternState {
         }
 
         /** Which cells must be scratched, as bits; NONE, if MOST_SCRATCHES do not help. */
-        int findScratches(Scene ofScene, State state, int of) {
-            scene = ofScene;
-            picture = of;
+        int findScratches(Scene scene, State state, int ofPicture) {
+            picture = ofPicture;
             behind = state.behind;
             int found = NONE;
             for (int many = 0; found == NONE && many <= MOST_SCRATCHES; many++) {
-                found = leastCells(many, CELLS, 0);
+                found = leastCells(scene, many, CELLS, 0);
             }
             return found;
         }
 
         /** Takes the highest cell first and the least of it first: so sets come in rising order. */
-        private int leastCells(int left, int below, int set) {
+        private int leastCells(Scene scene, int left, int below, int set) {
             if (left <= 0) {
-                return isEnough(scene.sighers(picture ^ set, behind)) ? set : NONE;
+                return scene.isEnough(scene.sighers(picture ^ set, behind)) ? set : NONE;
             }
             for (int top = left - 1; top < below; top++) {
-                int found = leastCells(left - 1, top, set | 1 << top);
+                int found = leastCells(scene, left - 1, top, set | 1 << top);
                 if (found != NONE) {
                     return found;
                 }
             }
             return NONE;
-        }
-
-        private boolean isEnough(int who) {
-            return Integer.bitCount(who) >= scene.pass;
         }
     }
 
@@ -1466,10 +1432,10 @@ public final class LanternState {
         int lines;
         int why;
 
-        boolean read(Reader in, Scene scene) {
+        boolean read(Tape in, Scene scene) {
             lines = 0;
             in.next();
-            while (lines <= MOST_LINES && in.kind != Reader.END) {
+            while (lines <= MOST_LINES && in.kind != Tape.END) {
                 if (!readLine(in, scene) || !in.takeLineEnd()) {
                     return false;
                 }
@@ -1479,13 +1445,13 @@ public final class LanternState {
             return true;
         }
 
-        private boolean readLine(Reader in, Scene scene) {
-            if (in.kind != Reader.NAME && in.key != KEY_HOUR) {
+        private boolean readLine(Tape in, Scene scene) {
+            if (in.kind != Tape.NAME && in.key != KEY_HOUR) {
                 return in.fail(FAULT_TOKEN);
             }
             int s = scene.findSlide(in.code);
             int h = scene.findHearer(in.code);
-            if (in.kind == Reader.NAME && s == NONE && h == NONE) {
+            if (in.kind == Tape.NAME && s == NONE && h == NONE) {
                 return in.fail(FAULT_NAME);
             }
             if (lines >= MOST_LINES) {
@@ -1497,7 +1463,7 @@ public final class LanternState {
             return s != NONE ? readSlideAct(in, scene, s) : readSeatAct(in, h);
         }
 
-        private boolean readSlideAct(Reader in, Scene scene, int s) {
+        private boolean readSlideAct(Tape in, Scene scene, int s) {
             in.next();
             switch (in.key) {
                 case KEY_SHOWN:
@@ -1516,7 +1482,7 @@ public final class LanternState {
             }
         }
 
-        private boolean readSeatAct(Reader in, int h) {
+        private boolean readSeatAct(Tape in, int h) {
             return in.takeKey(KEY_SITS) && in.takeSeat()
                 && keepLine(KEY_SITS, h, in.key == KEY_BEHIND ? 1 : 0, 0);
         }
@@ -1591,16 +1557,16 @@ public final class LanternState {
             System.arraycopy(other.numbers, 0, numbers, 0, MOST_PARTS);
         }
 
-        boolean read(Reader in, Scene scene) {
+        boolean read(Tape in, Scene scene) {
             ones = 0;
             parts = 0;
             in.next();
-            there = readCond(in, scene, 1) && (in.kind == Reader.END || in.fail(FAULT_TOKEN));
+            there = readCond(in, scene, 1) && (in.kind == Tape.END || in.fail(FAULT_TOKEN));
             return there;
         }
 
         /** Here and below the TOKEN read last is the first one of what is to be read, then the one behind it. */
-        private boolean readCond(Reader in, Scene scene, int within) {
+        private boolean readCond(Tape in, Scene scene, int within) {
             boolean fits = readAll(in, scene, within);
             for (int i = 0; fits && i < MOST_ONES && in.key == KEY_OR; i++) {
                 in.next();
@@ -1609,7 +1575,7 @@ public final class LanternState {
             return fits;
         }
 
-        private boolean readAll(Reader in, Scene scene, int within) {
+        private boolean readAll(Tape in, Scene scene, int within) {
             boolean fits = readOne(in, scene, within);
             for (int i = 0; fits && i < MOST_ONES && in.key == KEY_AND; i++) {
                 in.next();
@@ -1618,7 +1584,7 @@ public final class LanternState {
             return fits;
         }
 
-        private boolean readOne(Reader in, Scene scene, int within) {
+        private boolean readOne(Tape in, Scene scene, int within) {
             if (!in.isSign('(') && (in.key < KEY_NOT || in.key > KEY_NUMBER)) {
                 return in.fail(FAULT_TOKEN);
             }
@@ -1644,7 +1610,7 @@ public final class LanternState {
             }
         }
 
-        private boolean readBracket(Reader in, Scene scene, int within) {
+        private boolean readBracket(Tape in, Scene scene, int within) {
             in.next();
             if (!readCond(in, scene, within + 1)) {
                 return false;
@@ -1656,17 +1622,21 @@ public final class LanternState {
             return true;
         }
 
-        private boolean readMeasure(Reader in) {
+        private boolean readMeasure(Tape in) {
             int key = in.key;
             in.next();
             if (!in.isSign('<') && !in.isSign('=') && !in.isSign('>')) {
                 return in.fail(FAULT_TOKEN);
             }
             int sign = in.value;
-            return in.takeNumber(0, 999) && keepLeaf(in, key, sign, in.value);
+            in.next();
+            if (in.kind != Tape.NUMBER) {
+                return in.fail(FAULT_TOKEN);
+            }
+            return keepLeaf(in, key, sign, in.value);
         }
 
-        private boolean keepLeaf(Reader in, int key, int sign, int number) {
+        private boolean keepLeaf(Tape in, int key, int sign, int number) {
             in.next();
             return keepPart(key, sign, number);
         }
