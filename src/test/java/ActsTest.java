@@ -33,6 +33,11 @@ public final class ActsTest {
         Check.due("show(-1, 0)", x.show(-1, 0), -1);
         Check.due("show(0, 4)", x.show(0, 4), -1);
         Check.due("show(0, -1)", x.show(0, -1), -1);
+        LanternState z = Check.of("slide a 0 0 0 0 1;slide b 0 0 0 0 1;after a b;pass 0;");
+        Check.due("behind a later one", z.show(0, 0), -3);
+        Check.due("over it, too", z.over(0, 1), -3);
+        Check.due("the later one", z.show(1, 0), 0);
+        Check.due("then the first", z.show(0, 0), 0);
         LanternState y = Check.of("slide a 0 0 0 0 1;pass 0;");
         Check.due("none need sigh", y.show(0, 3), 0);
         Check.due("so without hearers", y.now(3), 1);

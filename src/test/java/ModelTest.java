@@ -78,9 +78,10 @@ public final class ModelTest {
             hearerText(text, (char) ('p' + h));
         }
         nearText(text, hearers);
-        for (int s = 1; s < slides; s++) {
-            if (below(3) == 0) {
-                text.append("after ").append((char) ('a' + s)).append(' ').append((char) ('a' + below(s))).append(';');
+        for (int s = 0; s < slides; s++) {
+            int t = below(slides);
+            if (t != s && below(3) == 0) {
+                text.append("after ").append((char) ('a' + s)).append(' ').append((char) ('a' + t)).append(';');
             }
         }
         text.append(below(4) == 0 ? "" : "pass " + below(5) + ";");
@@ -96,7 +97,8 @@ public final class ModelTest {
         for (int i = below(8); i > 0; i--) {
             int cell = below(16);
             if ((told >> cell & 1) == 0 || below(200) == 0) {
-                text.append(below(3) == 0 ? "hates " : "likes ").append(name).append(' ').append(cell / 4).append(' ').append(cell % 4).append(';');
+                text.append(below(3) == 0 ? "hates " : "likes ").append(name);
+                text.append(' ').append(cell / 4).append(' ').append(cell % 4).append(';');
                 told |= 1 << cell;
             }
         }

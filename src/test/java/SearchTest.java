@@ -87,6 +87,10 @@ public final class SearchTest {
         LanternState x = Check.of("slide a 8 0 0 0 20;hearer g front 1;likes g 3 0;hearer h front 1;likes h 3 0;hearer k front 9;hearer l front 9;"
             + "near h k;near h l;pass 3;spread 1;");
         moved(x, 0, 0, 1, 2);
+        LanternState y = Check.of("slide a 8 0 0 0 20;hearer g front 1;likes g 3 0;hearer h front 1;likes h 3 0;"
+            + "hearer k front 1;likes k 3 0;hearer l front 9;near k l;pass 2;spread 1;");
+        // g and h together are the lesser bits, but k alone is fewer
+        moved(y, 0, 0, 1, 4);
     }
 
     private static void scratched(LanternState x, int s, int many, int which) {

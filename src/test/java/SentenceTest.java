@@ -128,6 +128,8 @@ public final class SentenceTest {
     private static void tooMany() {
         LanternState x = Check.of(SIX);
         says(x, Check.times("so or ", 19) + "even", 20, 2, 3, 4);
+        says(x, Check.times("even and ", 19) + "even", 20, 2, 3, 4);
+        fault(Check.times("so and ", 20) + "even", 4, 140);
         fault(Check.times("so or ", 20) + "even", 4, 120);
         fault(Check.times("so or ", 20) + "like ?", 4, 120);
         fault(Check.times("so or ", 20) + "(so", 4, 120);

@@ -85,6 +85,10 @@ public final class SessionTest {
         fault("hearer k 1 1;", 1, 9);
         fault("hearer k left 1;", 1, 9);
         fault("hearer k front front;", 1, 15);
+        fault("hearer k left;", 1, 9);
+        fault("hearer front;", 1, 7);
+        fault("slide slide;", 1, 6);
+        fault("likes g;", 1, 7);
         fault("near lamp g;", 1, 5);
         fault("near 1 g;", 1, 5);
         fault("after a;", 1, 7);
@@ -126,6 +130,9 @@ public final class SessionTest {
         fault("near g g;", 3, 7);
         fault("near g x;", 3, 7);
         fault("near a g;", 3, 5);
+        fault("near x;", 3, 5);
+        fault("likes x;", 3, 6);
+        fault("after x;", 3, 6);
         fault("near g h;near h g;", 3, 16);
         fault("near g h;near g h;", 3, 16);
         fault("after a a;", 3, 8);
@@ -185,6 +192,8 @@ public final class SessionTest {
         Check.due("a number over the edge is read whole", Check.session(x, lines + "    lamp 999;"), -901 + 1);
         Check.due("its kind", x.fault(), 2);
         Check.due("a number over the edge that fits", Check.session(x, lines + "    lamp 99;"), -901);
+        Check.due("a number just behind the edge", Check.session(x, lines + "lamp      999;"), -901);
+        Check.due("its kind is not the number's", x.fault(), 1);
         Check.due("a word over the edge", Check.session(x, lines + "   lampions;"), -894);
         Check.due("a line's end over the edge", Check.session(x, lines + "lamp      "), -901);
         Check.due("a line's end just behind the edge", Check.session(x, lines + "lamp       "), -901);
