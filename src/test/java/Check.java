@@ -1,3 +1,8 @@
+import java.lang.reflect.InvocationTargetException;
+import java.lang.reflect.Method;
+import java.lang.reflect.Modifier;
+import java.util.Arrays;
+import java.util.Comparator;
 import java.util.NoSuchElementException;
 
 /** What the tests share: feeding texts, and noting every answer that is not the one that is due. */
@@ -11,6 +16,8 @@ final class Check {
 
     private static int asked;
     private static int wrong;
+    /** The test that is run now, where a class has one method for each. */
+    private static String running = "";
 
     private Check() {
     }
@@ -19,7 +26,7 @@ final class Check {
         asked++;
         if (got != want) {
             wrong++;
-            System.out.println(call + " answered " + got + ", due is " + want);
+            System.out.println(running + call + " answered " + got + ", due is " + want);
         }
     }
 
@@ -32,6 +39,79 @@ final class Check {
         if (wrong != 0) {
             System.exit(1);
         }
+    }
+
+    /** Runs every method of a class that takes nothing, each as a test of its own. */
+    static void runAll(Class<?> tests) throws IllegalAccessException {
+        Method[] methods = tests.getDeclaredMethods();
+        Arrays.sort(methods, Comparator.comparing(Method::getName));
+        for (Method m : methods) {
+            if (m.getParameterCount() == 0 && Modifier.isStatic(m.getModifiers()) && m.getReturnType() == void.class) {
+                running = m.getName() + ": ";
+                m.setAccessible(true);
+                int before = asked;
+                try {
+                    m.invoke(null);
+                } catch (InvocationTargetException e) {
+                    wrong++;
+                    System.out.println(running + "threw " + e.getCause());
+                }
+                due("asks something", asked > before, true);
+            }
+        }
+        running = "";
+        finish(tests.getName());
+    }
+
+    /** A text without its mark ^, which stands where its FAULT is. */
+    private static String unmarked(String text) {
+        return text.replace("^", "");
+    }
+
+    /** Neither the SESSION nor what happened in it is changed by a text that has a FAULT at the mark. */
+    static void sessionRefused(String marked, int kind) {
+        LanternState x = of("slide old 1 2 3 4 5;lamp 77;");
+        x.hours(3);
+        sentence(x, "not so");
+        due("session '" + marked + "'", session(x, unmarked(marked)), -1 - marked.indexOf('^'));
+        due("fault()", x.fault(), kind);
+        due("the tape is empty", x.count(6), 0);
+        due("the SESSION stays", x.count(0) * 100 + x.count(5), 177);
+        due("the HOUR stays", x.now(0), 3);
+        due("the SENTENCE stays", x.said(-1), 1);
+        due("what can be undone stays", x.undo(), 0);
+    }
+
+    /** Nothing is lived, and what was told last stays. */
+    static void bookRefused(String cast, String marked, int kind) {
+        LanternState x = of(cast);
+        due("a book ahead", book(x, "hour 2;hour 3;", 0), -1);
+        due("book '" + marked + "'", book(x, unmarked(marked), 1), -2 - marked.indexOf('^'));
+        due("fault()", x.fault(), kind);
+        due("the tape is empty", x.count(6), 0);
+        due("nothing is lived", x.now(0), 0);
+        due("nothing can be undone", x.undo(), -1);
+        due("told(1) stays", x.told(1), 2);
+        due("told(2) stays", x.told(2), 5);
+    }
+
+    /** The SENTENCE stays. */
+    static void sentenceRefused(String cast, String marked, int kind) {
+        LanternState x = of(cast);
+        due("a sentence ahead", sentence(x, "number = 0"), 1);
+        due("sentence '" + marked + "'", sentence(x, unmarked(marked)), -1 - marked.indexOf('^'));
+        due("fault()", x.fault(), kind);
+        due("the tape is empty", x.count(6), 0);
+        due("the SENTENCE stays", x.said(-1), 1);
+    }
+
+    /** The text fits as a SESSION, and has so many LINES. */
+    static LanternState fits(String text, int lines) {
+        LanternState x = new LanternState();
+        due("session '" + text + "'", session(x, text), lines);
+        due("fault()", x.fault(), 0);
+        due("the tape is empty", x.count(6), 0);
+        return x;
     }
 
     /** Puts bytes behind the tape, in twenties, and cuts what is over. */
@@ -102,7 +182,7 @@ final class Check {
         asked++;
         if (!got.equals(want)) {
             wrong++;
-            System.out.println(call + " told '" + got + "', due is '" + want + "'");
+            System.out.println(running + call + " told '" + got + "', due is '" + want + "'");
         }
     }
 
