@@ -81,6 +81,9 @@ public final class LanguageTest {
                 due("line " + (i + 1) + " has no '" + word + "'", !line.contains(word));
             }
             due("line " + (i + 1) + " imports what is told", !line.startsWith("import") || line.equals("import java.util.NoSuchElementException;"));
+            boolean madeOnce = line.contains(" final ") || line.startsWith("        final ") || line.contains("throw new")
+                || line.contains("images[k] = new Image();") || line.contains("kept[i] = new State();");
+            due("line " + (i + 1) + " makes nothing in a call", !line.contains(" new ") || madeOnce);
             if (line.matches(" {4}(    )?[a-z].*\\) (throws NoSuchElementException )?\\{")) {
                 method = i;
             }
